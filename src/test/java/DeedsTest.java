@@ -158,9 +158,13 @@ public final class DeedsTest {
         Due.refuses(x, "crack(0) behind 40", () -> x.crack(0), Due.FULL);
         Due.refuses(x, "crack(9) behind 40", () -> x.crack(9), Due.BAD);
         Due.due("keep(0) behind 40", x.keep(0), 40);
+        long kept = x.digest();
         Due.due("undo(39)", x.undo(39), 1);
         Due.due("press(0) behind 39", x.press(0), 2 + 8);
+        x.undo(39);
+        Due.due("set(8, 1) behind 39", x.set(8, 1), 0);
         Due.due("on(0)", x.on(0), 40);
+        Due.due("digest() behind on(0)", x.digest(), kept);
         Due.due("undo(0)", x.undo(0), 40);
     }
 }

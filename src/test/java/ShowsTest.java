@@ -86,6 +86,12 @@ public final class ShowsTest {
         Due.due("fewest to no avail", x.fewest(511, 1), Due.NONE);
         rowIs(x, 1, 0, 2, 4, 8);
         Due.due("fewest aside", x.count(2), 0);
+        TouchedLamps slow = Due.walled("w0w0w0w0w0w0w0w0w0");
+        Due.due("fewest of SLOW ones", slow.fewest(11 | 186, 1), 3);
+        rowIs(slow, 1, 0, 0, 4);
+        slow.press(0);
+        Due.due("fewest of SLOW ones ahead of PRESS 1", slow.fewest(11 | 186, 1), 2);
+        rowIs(slow, 1, 0, 4);
         Due.refuses(x, "fewest(512, 0)", () -> x.fewest(512, 0), Due.BAD);
         Due.refuses(x, "fewest(-1, 0)", () -> x.fewest(-1, 0), Due.BAD);
         Due.refuses(x, "fewest(0, 6)", () -> x.fewest(0, 6), Due.BAD);
@@ -114,6 +120,10 @@ public final class ShowsTest {
         Due.tellsParts(y, "ways(511), one to come", y.ways(511), 448, 1);
         Due.due("ways(511): asked()", y.asked(), 1);
         Due.tells(y, "sure(511)", y.sure(511), 0, 0);
+        TouchedLamps slow = Due.walled("w0w0w0w0w0w0w0w0w0");
+        Due.tellsParts(slow, "ways(11) of SLOW ones: 0 alone, or with one other", slow.ways(11), 9, 1);
+        Due.due("ways(11): asked()", slow.asked(), 1);
+        Due.tells(slow, "sure(11)", slow.sure(11), 1, 0);
         for (TouchedLamps z : new TouchedLamps[] {x, y}) {
             Due.refuses(z, "ways(512)", () -> z.ways(512), Due.BAD);
             Due.refuses(z, "ways(-1)", () -> z.ways(-1), Due.BAD);

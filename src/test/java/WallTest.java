@@ -125,6 +125,8 @@ public final class WallTest {
         Due.refuses(x, "mark(9, 1)", () -> x.mark(9, 1), Due.BAD);
         Due.refuses(x, "mark(-1, 1)", () -> x.mark(-1, 1), Due.BAD);
         shyPlaces();
+        TouchedLamps stuck = Due.walled("k0k0k1k0 k1 l0 l1 h0 f0");
+        Due.due("mark(2, 2), three of five at 0", stuck.mark(2, 2), 3);
         TouchedLamps none = new TouchedLamps();
         Due.refuses(none, "mark(0, 1) without LAMPS", () -> none.mark(0, 1), Due.BAD);
     }

@@ -131,6 +131,11 @@ public final class WhichTest {
         Due.tells(stuck, "duel(511, 1), STUCK", stuck.duel(511, 1), 1, 5);
         Due.tells(stuck, "duel(0, 1), STUCK: the first PRESSES none", stuck.duel(0, 1), 1, -5);
         Due.tells(stuck, "duel(511, 2), STUCK", stuck.duel(511, 2), 1, 7);
+        TouchedLamps plain = Due.walled(Due.PLAIN);
+        Due.tells(plain, "duel(511, 1): the second has the last word", plain.duel(511, 1), 1, 0);
+        Due.tells(plain, "duel(16, 2)", plain.duel(16, 2), 1, -3);
+        TouchedLamps slow = Due.walled("w2w2w2w2w2w2w2w2w2");
+        Due.tells(slow, "duel(0, 1): PRESS 1 moves no SLOW one", slow.duel(0, 1), 1, -4);
         Due.refuses(x, "duel(512, 0)", () -> x.duel(512, 0), Due.BAD);
         Due.refuses(x, "duel(-1, 0)", () -> x.duel(-1, 0), Due.BAD);
         Due.refuses(x, "duel(0, 3)", () -> x.duel(0, 3), Due.BAD);
