@@ -266,13 +266,27 @@ final class EdgesOfDeeds {
         Edge.answers(x, 208, "count", 3);
         Edge.answers(x, 3, "on", 2);
         TouchedLamps full = Scene.FULL.make();
+        TouchedLamps twin = Scene.FULL.make();
+        twin.keep(1);
         Edge.answers(full, 40, "keep", 1);
-        Edge.answers(full, 40, "undo", 0);
+        otherDeeds(full);
+        Edge.answers(full, 40, "on", 1);
+        Edge.sameElse("on(1) behind 40 other DEEDS", full, twin);
+        otherDeeds(full);
         Edge.answers(full, 40, "on", 1);
         Edge.answers(full, Due.FULL, "press", 0);
         Edge.answers(full, 2, "on", 0);
         Edge.due("press(0) behind on(0)", full.press(0) >= 0 ? 1 : 0, 1);
         Edge.answers(full, 3, "count", 2);
+    }
+
+    /** 40 DEEDS, each of which is another one than that of its number in FULL. */
+    private static void otherDeeds(TouchedLamps x) {
+        x.undo(0);
+        for (int deed = 0; deed < 40; deed++) {
+            x.press(8);
+        }
+        Edge.answers(x, 40, "count", 2);
     }
 
     private static void onRefused() {

@@ -304,6 +304,10 @@ final class EdgesOfKinds {
         duelIs(stuck, 0, 1, -5);
         duelIs(stuck, 511, 2, 7);
         duelIs(stuck, 0, 2, -7);
+        for (int i = 0; i < 9; i++) {
+            duelIs(darkAround(i), 511, 1, 9);
+            duelIs(darkAround(i), 0, 1, -9);
+        }
         Scene slow = Scene.of("w2w2w2w2w2w2w2w2w2");
         duelIs(slow, 0, 1, -4);
         duelIs(slow, 511, 1, 6);
@@ -318,6 +322,16 @@ final class EdgesOfKinds {
         }
         duelIs(Scene.FULL, 217, 0, 5);
         Edge.aside(Scene.FULL, 1, "duel", 217, 2);
+    }
+
+    /** STUCK ones, at 1 but for those that one BUTTON touches: by that one alone all SHOW behind one PRESS. */
+    private static Scene darkAround(int button) {
+        int touched = new int[] {11, 23, 38, 89, 186, 308, 200, 464, 416}[button];
+        StringBuilder wall = new StringBuilder();
+        for (int i = 0; i < 9; i++) {
+            wall.append((touched >> i & 1) == 1 ? "k0" : "k1");
+        }
+        return Scene.of(wall.toString());
     }
 
     private static void duelRefused() {

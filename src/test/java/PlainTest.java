@@ -1,6 +1,9 @@
 import java.util.Random;
 
-/** Promises 1 to 40: runs of calls by lots, up to the 512 that an object is used for, held to PlainLamps. */
+/**
+ * Promises 1 to 40: runs of calls by lots, held to PlainLamps. They go on beyond the 512 calls that the document speaks
+ * of: what comes later is free, but the class has no end there, and longer runs see more.
+ */
 public final class PlainTest {
     private static final int RUNS = 400;
     private static final int CALLS = 500;
